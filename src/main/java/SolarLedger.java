@@ -287,7 +287,8 @@ public final class SolarLedger {
         }
         history.keep(books);
         long value = books.valueOfMonth(books.month);
-        division.divideByShareDays(books, value, books.month, 0);
+        division.weighShareDays(books, books.month, 0);
+        division.divide(value);
         credits.passOn(books, division.parts);
         books.closeMonth(division.parts, credits.kept);
         return value;
@@ -314,13 +315,15 @@ public final class SolarLedger {
 
     public long projectedPart(int subscriber) throws IndexOutOfBoundsException {
         requireParticipant(subscriber);
-        divideProjected(books.valueOfMonth(books.month));
+        weighProjected();
+        division.divide(books.valueOfMonth(books.month));
         return division.parts[placeOf(subscriber)];
     }
 
     public long projectedCredit(int subscriber) throws IndexOutOfBoundsException {
         requireSubscriber(subscriber);
-        divideProjected(books.valueOfMonth(books.month));
+        weighProjected();
+        division.divide(books.valueOfMonth(books.month));
         credits.passOn(books, division.parts);
         return credits.kept[subscriber];
     }
@@ -334,10 +337,12 @@ public final class SolarLedger {
         trial.copyFrom(books.subscribers[subscriber]);
         long value = books.valueOfMonth(books.month);
         long bill = trial.accounts[BILL];
-        divideProjected(value);
+        weighProjected();
+        division.divide(value);
         credits.passOn(books, division.parts);
         trial.finishMonth(credits.kept[subscriber], books.month, books.garden.expiry);
-        division.divideByShareDays(books, value, NONE, MONTH_DAYS);
+        division.weighShareDays(books, NONE, MONTH_DAYS);
+        division.divide(value);
         credits.passOn(books, division.parts);
         for (int further = 1; further < ends; further++) {
             trial.accounts[BILL] = bill;
@@ -353,10 +358,11 @@ public final class SolarLedger {
         int place = placeOf(subscriber);
         long generated = books.meter.counted[Meter.cell(books.month, period)];
         long fromOthers = books.valueOfMonth(books.month) - generated * books.garden.rates[period];
+        weighProjected();
         // A greater rate may make a part smaller by one (its remainder loses its rank), so that no
         // search by halves finds the least rate.
         for (int rate = 0; rate <= MAX_RATE; rate++) {
-            divideProjected(fromOthers + generated * rate);
+            division.divide(fromOthers + generated * rate);
             if (division.parts[place] >= amount) {
                 return rate;
             }
@@ -469,7 +475,8 @@ public final class SolarLedger {
         for (int past = 0; past < books.month; past++) {
             long difference = books.meter.correctionValue(past, books.garden);
             if (difference != 0) {
-                division.divideByShareDays(books, Math.abs(difference), past, 0);
+                division.weighShareDays(books, past, 0);
+                division.divide(Math.abs(difference));
                 books.settleTrueUp(division.parts, difference > 0);
             }
             books.meter.countCorrections(past);
@@ -487,7 +494,8 @@ public final class SolarLedger {
         }
         history.keep(books);
         long amount = books.commonFund;
-        division.divideByHeldShares(books, amount);
+        division.weighHeldShares(books);
+        division.divide(amount);
         books.commonFund = 0;
         books.creditParts(division.parts);
         return amount;
@@ -581,8 +589,8 @@ public final class SolarLedger {
 
     // ---- help for computations
 
-    private void divideProjected(long value) {
-        division.divideByShareDays(books, value, books.month, MONTH_DAYS - books.day);
+    private void weighProjected() {
+        division.weighShareDays(books, books.month, MONTH_DAYS - books.day);
     }
 
     private static int placeOf(int participant) {
@@ -601,22 +609,13 @@ public final class SolarLedger {
 
     /** The settings and the tariff. */
     private static final class Garden {
-        private int capacity;
-        private int expiry;
-        private int buyout;
-        private int limit;
-        private int periodCount;
-        private final int[] rates = new int[MAX_PERIODS];
+        private int capacity = 1000;
+        private int expiry = 12;
+        private int buyout = 50;
+        private int limit = 100;
+        private int periodCount = 1;
+        private final int[] rates = {10, 0, 0, 0};
         private final int[] periodOfHour = new int[HOURS];
-
-        private void setDefaults() {
-            capacity = 1000;
-            expiry = 12;
-            buyout = 50;
-            limit = 100;
-            clearPeriods();
-            addPeriod(10);
-        }
 
         private void copyFrom(Garden other) {
             capacity = other.capacity;
@@ -1009,7 +1008,6 @@ public final class SolarLedger {
         private long operatorMoney;
 
         private Books() {
-            garden.setDefaults();
             for (int i = 0; i < MAX_SUBSCRIBERS; i++) {
                 subscribers[i] = new Subscriber();
             }
@@ -1226,23 +1224,23 @@ public final class SolarLedger {
         private static final long GIVEN = -1;
 
         private final long[] weights = new long[PARTICIPANTS];
+        private long total;
         private final long[] remainders = new long[PARTICIPANTS];
         private final long[] parts = new long[PARTICIPANTS];
 
-        /** By the share-days of a month (or NONE), with further days of the shares held now. */
-        private void divideByShareDays(Books books, long amount, int month, int furtherDays) {
-            long total = books.garden.monthShareDays();
-            weights[OPERATOR] = total - weigh(books, month, furtherDays);
-            divide(amount, total);
+        /** Takes the share-days of a month (or NONE), and further days of the shares held now. */
+        private void weighShareDays(Books books, int month, int furtherDays) {
+            long ofSubscribers = weighSubscribers(books, month, furtherDays);
+            total = books.garden.monthShareDays();
+            weights[OPERATOR] = total - ofSubscribers;
         }
 
-        private void divideByHeldShares(Books books, long amount) {
-            long total = weigh(books, NONE, 1);
-            weights[OPERATOR] = 0;
-            divide(amount, total);
+        /** Takes the shares held now, without the operator. */
+        private void weighHeldShares(Books books) {
+            total = weighSubscribers(books, NONE, 1);
         }
 
-        private long weigh(Books books, int month, int furtherDays) {
+        private long weighSubscribers(Books books, int month, int furtherDays) {
             long sum = 0;
             Arrays.fill(weights, 0);
             for (int i = 0; i < books.count; i++) {
@@ -1257,9 +1255,9 @@ public final class SolarLedger {
             return sum;
         }
 
-        private void divide(long amount, long total) {
-            Arrays.fill(parts, 0);
+        private void divide(long amount) {
             if (total < 1) {
+                Arrays.fill(parts, 0);
                 return;
             }
             long left = amount;

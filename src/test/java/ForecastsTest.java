@@ -185,10 +185,15 @@ public final class ForecastsTest {
         Check.due("more than 100/7", 2, x.neededShares(15));
         Check.due("200/7", 2, x.neededShares(28));
         Check.due("more than 200/7", 3, x.neededShares(29));
+        Check.due("3 would give 42", 4, x.neededShares(43));
         Check.due("all, whatever the limit", 7, x.neededShares(100));
         Check.fails("more than all", NO_ELEMENT, () -> x.neededShares(101));
         Check.fails("far more", NO_ELEMENT, () -> x.neededShares(Long.MAX_VALUE));
         Check.fails("negative", Check.ARGUMENT, () -> x.neededShares(-1));
+        SolarLedger z = Check.garden("garden 7 3 50 10;period 1;");
+        z.generate(0, 1);
+        Check.due("one millicent", 7, z.neededShares(1));
+        Check.due("nothing of one", 1, z.neededShares(0));
         SolarLedger y = Check.garden("garden 100000 3 50 10;period 200;");
         y.generate(0, 1_000_000_000);
         Check.due("great numbers", 99_999, y.neededShares(199_998_000_000L));
@@ -230,6 +235,12 @@ public final class ForecastsTest {
         Check.due("140", 1, x.monthsCovered(0, 140));
         Check.due("141", 0, x.monthsCovered(0, 141));
         Check.due("the greatest long", 0, x.monthsCovered(0, Long.MAX_VALUE));
+        SolarLedger y = Check.garden("garden 1 24 50 100;period 1;");
+        y.join(1, 1, 0);
+        Check.endMonth(y, 100);
+        Check.due("paid lots are gone", 2, y.monthsCovered(0, 40));
+        Check.due("to the last", 4, y.monthsCovered(0, 25));
+        Check.due("until it expires", 24, y.monthsCovered(0, 1));
         Check.fails("0", Check.ARGUMENT, () -> x.monthsCovered(0, 0));
         Check.fails("negative", Check.ARGUMENT, () -> x.monthsCovered(0, Long.MIN_VALUE));
         Check.fails("nobody", Check.INDEX, () -> x.monthsCovered(1, 0));

@@ -11,6 +11,7 @@ public final class GardenTextTest {
         appendStopsAt300();
         loadReplacesTheGarden();
         loadTakesAPrefixAndEmptiesTheBuffer();
+        nothingBehindThePrefixIsRead();
         hoursAreTold();
         spacesAndZeros();
         syntaxErrors();
@@ -114,6 +115,19 @@ public final class GardenTextTest {
         Check.due("not emptied by a refused load", 1, x.load(text.length()));
     }
 
+    private static void nothingBehindThePrefixIsRead() {
+        String text = GARDEN + "period 77;  hours 1 2 0;";
+        for (int length = 0; length < text.length(); length++) {
+            SolarLedger x = new SolarLedger();
+            Check.append(x, text.getBytes());
+            boolean whole = length >= 29 && length <= 31;
+            Check.due("load " + length, whole ? 1 : SolarLedger.SYNTAX_ERROR, x.load(length));
+            int errorAt = length < 6 ? 0 : length > 19 && length < 25 ? 19 : length;
+            errorAt = length > 31 && length < 36 ? 31 : errorAt;
+            Check.due("load " + length + " at", whole ? -1 : errorAt, x.errorPosition());
+        }
+    }
+
     private static void hoursAreTold() {
         SolarLedger x = Check.garden(GARDEN + "period 1;period 2;period 3;period 4;"
                 + "hours 0 24 3;hours 5 6 1;hours 22 24 2;hours 23 24 0;");
@@ -162,6 +176,12 @@ public final class GardenTextTest {
         expectError("garden 5 1 1 1x", code, 14);
         expectError("garden\t5 1 1 1;", code, 6);
         expectError("garden 5\u00e91", code, 8);
+        expectError("gardena 5 1 1 1;", code, 0);
+        expectError("gardenz 5 1 1 1;", code, 0);
+        expectError("garden{5 1 1 1;", code, 6);
+        expectError("garden`5 1 1 1;", code, 6);
+        expectError("garden:", code, 6);
+        expectError("garden/", code, 6);
         expectError(GARDEN, code, 19);
         expectError(GARDEN + " ", code, 20);
         expectError(GARDEN + "hours 1 2 0;", code, 19);

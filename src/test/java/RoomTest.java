@@ -2,7 +2,8 @@ import java.lang.management.ManagementFactory;
 
 /**
  * A run of calls lives in one room of 7.3 million fields and elements: what 512 calls of any kind
- * allocate stays far below it, counted in bytes (8 for a field or element at most).
+ * allocate stays below half of it. Four bytes are taken for an element, as ints have them; longs
+ * have more, and the few bytes of the texts do not matter.
  */
 public final class RoomTest {
     private static final long ROOM = 7_300_000L;
@@ -79,7 +80,7 @@ public final class RoomTest {
         for (int i = first; i < first + CALLS; i++) {
             run.call(i);
         }
-        long used = (allocated() - before) / 8;
+        long used = (allocated() - before) / 4;
         System.out.println(name + ": " + used);
         if (used > ROOM / 2) {
             Check.fail(name + " took " + used + " elements");

@@ -15,6 +15,7 @@ public final class SubscribersTest {
         reduce();
         transfer();
         assignErrors();
+        longestCircle();
         assignReplacesAndEnds();
         leaveErrors();
         leaveFreesShares();
@@ -136,19 +137,26 @@ public final class SubscribersTest {
         x.join(50, 1, 0);
         x.join(40, 1, 0);
         x.join(60, 60, 0);
+        Check.fails("all there is", Check.STATE, () -> x.transfer(1, 0, 40));
         Check.due("transfer", 60, x.transfer(0, 1, 20));
         Check.due("the giver", 30, x.shares(0));
         Check.due("free shares stay", 10, x.freeShares());
         Check.fails("over the limit", Check.STATE, () -> x.transfer(0, 1, 1));
-        Check.fails("all", Check.STATE, () -> x.transfer(0, 1, 30));
         Check.fails("the greatest int", Check.STATE, () -> x.transfer(0, 1, Integer.MAX_VALUE));
         Check.fails("to one who waits", Check.STATE, () -> x.transfer(0, 2, 1));
         Check.fails("from one who waits", Check.STATE, () -> x.transfer(2, 0, 1));
         Check.fails("to itself", Check.ARGUMENT, () -> x.transfer(2, 2, 1));
         Check.fails("transfer 0", Check.ARGUMENT, () -> x.transfer(0, 2, 0));
         Check.fails("from nobody", Check.INDEX, () -> x.transfer(3, 3, 1));
+        Check.fails("from -1", Check.INDEX, () -> x.transfer(-1, 0, 1));
         Check.fails("to nobody", Check.INDEX, () -> x.transfer(0, 3, 0));
+        Check.fails("all", Check.STATE, () -> x.transfer(1, 0, 60));
         Check.due("back", 60, x.transfer(1, 0, 30));
+        Check.fails("all that it keeps", Check.STATE, () -> x.transfer(1, 0, 30));
+        Check.due("0 gives", 59, x.transfer(0, 1, 29));
+        Check.due("0 gives to the limit", 60, x.transfer(0, 1, 1));
+        x.reduce(0, 29);
+        Check.fails("its only share", Check.STATE, () -> x.transfer(0, 2, 1));
     }
 
     private static void assignErrors() {
@@ -175,6 +183,20 @@ public final class SubscribersTest {
         x.assign(3, 4, 5);
         Check.fails("a circle of five", Check.ARGUMENT, () -> x.assign(4, 0, 1));
         Check.due("nothing was changed", "4:active 60 0.000", Check.description(x, 4));
+    }
+
+    private static void longestCircle() {
+        SolarLedger x = Check.garden(HUNDRED);
+        for (int i = 0; i < 16; i++) {
+            x.join(1, 1, 0);
+        }
+        for (int i = 1; i < 16; i++) {
+            x.assign(i, i - 1, 100);
+        }
+        Check.fails("a circle of sixteen", Check.ARGUMENT, () -> x.assign(0, 15, 1));
+        x.generate(0, 100);
+        Check.due("all comes to 0", 160, x.projectedCredit(0));
+        Check.due("nothing stays with 7", 0, x.projectedCredit(7));
     }
 
     private static void assignReplacesAndEnds() {

@@ -12,6 +12,7 @@ public final class TrueUpTest {
         severalMonthsInOrder();
         periodsMayOutweighEachOther();
         dividedByTheShareDaysOfThatMonth();
+        singleMillicents();
         shareFundErrors();
         shareFund();
         shareFundReducesDebt();
@@ -163,15 +164,37 @@ public final class TrueUpTest {
         x.reduce(1, 1);
         x.more(0, 2);
         x.passDays(30);
-        // -7 of month 0: 1 3/4, 3 2/4 and 1 3/4 for the operator; two millicents are left.
         x.correct(0, 0, 0);
         x.trueUp();
-        Check.due("0", 0, x.balance(0) + x.account(0, 0));
+        Check.due("0 has nothing", 0, x.balance(0));
+        Check.due("0 owes nothing", 0, x.account(0, 0));
         x.correct(0, 0, 7);
+        // 7 by 1, 2 and 1 of 4: 1 3/4, 3 2/4 and 1 3/4; two millicents are left.
         Check.due("D", 7, x.trueUp());
         Check.due("0 then", 2, x.lot(0, 1));
         Check.due("1 then", 3, x.lot(1, 1));
         Check.due("the operator", 2, x.operatorAccount());
+    }
+
+    private static void singleMillicents() {
+        SolarLedger x = garden();
+        x.join(4, 4, 0);
+        Check.endMonth(x, 5);
+        x.correct(0, 0, 6);
+        Check.due("D is 1", 1, x.trueUp());
+        Check.due("one more", 6, x.balance(0));
+        x.correct(0, 0, 5);
+        Check.due("D is -1", -1, x.trueUp());
+        Check.due("one less", 5, x.balance(0));
+        Check.due("from the newest lot", 0, x.lot(0, 1));
+        Check.endMonth(x, 0);
+        x.correct(0, 0, 1);
+        x.trueUp();
+        x.leave(0);
+        Check.due("a fund of 1", 1, x.fund());
+        x.join(1, 1, 0);
+        Check.due("share it", 1, x.shareFund());
+        Check.due("to the only one", 1, x.balance(1));
     }
 
     private static void shareFundErrors() {

@@ -11,6 +11,7 @@ public final class UndoTest {
         everyChangeIsUndone();
         refusedCallsAreNoChanges();
         undoAcrossLoad();
+        undoBringsBackWhoWaits();
         changesAfterUndo();
         theTextBufferStays();
         Check.finish();
@@ -168,6 +169,33 @@ public final class UndoTest {
         Check.due("the old garden", before, look(x));
         Check.due("the change before it", 0, x.undo());
         Check.due("free days", 30, x.passDays(30));
+    }
+
+    private static void undoBringsBackWhoWaits() {
+        SolarLedger x = Check.garden("garden 10 2 50 100;period 1;");
+        x.join(5, 1, 0);
+        x.join(8, 4, 3);
+        x.join(9, 2, 2);
+        x.undo();
+        x.undo();
+        x.join(9, 9, 0);
+        x.join(9, 9, 9);
+        x.undo();
+        x.undo();
+        x.join(8, 6, 3);
+        x.join(7, 6, 2);
+        Check.load(x, "garden 10 2 50 100;period 1;");
+        x.join(1, 1, 1);
+        x.join(2, 1, 4);
+        x.join(3, 1, 4);
+        x.undo();
+        x.undo();
+        x.undo();
+        x.undo();
+        Check.due("a description", "1:waiting 0 6", Check.description(x, 1));
+        Check.due("priority", 1, x.waitingPlace(2));
+        Check.due("wanted and minimum", 0, x.reduce(0, 3));
+        Check.due("shares", 8, x.shares(1));
     }
 
     private static void changesAfterUndo() {
