@@ -53,7 +53,7 @@ public final class SolarLedger {
     private final Credits credits = new Credits();
     /** A copy on which forecasts try what would happen. */
     private final Subscriber trial = new Subscriber();
-    private int foundAt = NONE;
+    private int errorAt = NONE;
 
     public SolarLedger() {
     }
@@ -78,17 +78,17 @@ public final class SolarLedger {
         }
         int error = text.read(length);
         if (error != GardenText.NO_ERROR) {
-            foundAt = text.position;
+            errorAt = text.position;
             return error;
         }
-        foundAt = NONE;
+        errorAt = NONE;
         history.keep(books);
         books.beginWith(text.garden);
         return books.garden.periodCount;
     }
 
     public int errorPosition() {
-        return foundAt;
+        return errorAt;
     }
 
     public int setting(int what) throws IllegalArgumentException {
@@ -1110,9 +1110,9 @@ public final class SolarLedger {
 
         private void letGo(int number) {
             Subscriber subscriber = subscribers[number];
-            boolean heldShares = subscriber.isActive();
+            boolean wasActive = subscriber.isActive();
             subscriber.status = LEFT;
-            if (heldShares) {
+            if (wasActive) {
                 commonFund += subscriber.closeAccounts(garden.buyout);
                 subscriber.held = 0;
                 endAssignments(number);

@@ -448,6 +448,11 @@ final class Model {
         return m.paidOut;
     }
 
+    /** For whoever makes up calls; the ledger has no such method. */
+    int daysPassed() {
+        return now.day;
+    }
+
     int subscriberCount() {
         return now.members.size();
     }

@@ -200,9 +200,12 @@ public final class ModelTest {
     }
 
     private void passTime() {
-        int days = pick(pace) == 0 ? 30 : number(1, 30);
-        same("passDays(" + days + ")", () -> x.passDays(days), () -> m.passDays(days));
-        if (pick(3) > 0) {
+        int rest = Math.max(1, 30 - m.daysPassed());
+        int days = pick(pace) == 0 ? rest : pick(5) == 0 ? number(1, 30) : number(1, rest);
+        if (m.daysPassed() < 30 || pick(10) == 0) {
+            same("passDays(" + days + ")", () -> x.passDays(days), () -> m.passDays(days));
+        }
+        if (m.daysPassed() == 30 || pick(10) == 0) {
             same("endMonth()", () -> x.endMonth(), () -> m.endMonth());
         }
     }

@@ -156,7 +156,8 @@ public final class SubscribersTest {
         Check.due("0 gives", 59, x.transfer(0, 1, 29));
         Check.due("0 gives to the limit", 60, x.transfer(0, 1, 1));
         x.reduce(0, 29);
-        Check.fails("its only share", Check.STATE, () -> x.transfer(0, 2, 1));
+        x.reduce(1, 10);
+        Check.fails("its only share", Check.STATE, () -> x.transfer(0, 1, 1));
     }
 
     private static void assignErrors() {
