@@ -186,8 +186,8 @@ public final class UndoTest {
         x.join(7, 6, 2);
         Check.load(x, "garden 10 2 50 100;period 1;");
         x.join(1, 1, 1);
-        x.join(2, 1, 4);
-        x.join(3, 1, 4);
+        x.join(2, 1, 1);
+        x.join(3, 1, 9);
         x.undo();
         x.undo();
         x.undo();
