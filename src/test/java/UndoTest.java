@@ -1,6 +1,3 @@
-import java.util.ArrayList;
-import java.util.List;
-
 /** Promise 44: undo, for every kind of change; and that a refused call is no change. */
 public final class UndoTest {
     private UndoTest() {
@@ -31,41 +28,6 @@ public final class UndoTest {
         Check.due("generation stays", 4, x.generation(0, 0));
     }
 
-    /** All that can be seen of a ledger, but for the text buffer and the description. */
-    private static String look(SolarLedger x) {
-        List<Long> seen = new ArrayList<>();
-        for (int what = 0; what < 6; what++) {
-            seen.add((long) x.setting(what));
-        }
-        for (int hour = 0; hour < 24; hour++) {
-            seen.add((long) x.periodOf(hour));
-        }
-        seen.add((long) x.freeShares());
-        seen.add((long) x.month());
-        seen.add(x.fund());
-        seen.add(x.operatorAccount());
-        for (int month = 0; month <= x.month(); month++) {
-            seen.add((long) x.shareDays(month, -1));
-            for (int period = 0; period < x.setting(4); period++) {
-                seen.add((long) x.generation(month, period));
-            }
-        }
-        for (int s = 0; s < x.subscriberCount(); s++) {
-            seen.add((long) x.state(s));
-            seen.add((long) x.shares(s));
-            seen.add((long) x.waitingPlace(s));
-            seen.add(x.projectedCredit(s));
-            for (int month = 0; month <= x.month(); month++) {
-                seen.add((long) x.shareDays(month, s));
-                seen.add(x.lot(s, month));
-            }
-            for (int what = 0; what < 6; what++) {
-                seen.add(x.account(s, what));
-            }
-        }
-        return seen.toString();
-    }
-
     private static SolarLedger ledger() {
         SolarLedger x = Check.garden("garden 10 2 50 60;period 3;period 20;hours 8 9 1;");
         x.join(3, 1, 0);
@@ -81,13 +43,13 @@ public final class UndoTest {
     }
 
     private static void undone(String name, SolarLedger x, boolean canBeSeen, Check.Action change) {
-        String before = look(x);
+        String before = Look.books(x);
         change.run();
-        if (canBeSeen && look(x).equals(before)) {
+        if (canBeSeen && Look.books(x).equals(before)) {
             Check.fail(name + " changed nothing");
         }
         Check.due(name + " can be undone", 5, x.undo());
-        Check.due("undo of " + name, before, look(x));
+        Check.due("undo of " + name, before, Look.books(x));
     }
 
     private static void everyChangeIsUndone() {
@@ -131,7 +93,7 @@ public final class UndoTest {
     private static void refusedCallsAreNoChanges() {
         SolarLedger x = new SolarLedger();
         x.join(10, 10, 0);
-        String before = look(x);
+        String before = Look.books(x);
         Check.fails("join", Check.ARGUMENT, () -> x.join(0, 0, 0));
         Check.fails("more", Check.STATE, () -> x.more(0, 1000));
         Check.fails("reduce", Check.STATE, () -> x.reduce(0, 10));
@@ -147,14 +109,14 @@ public final class UndoTest {
         Check.due("a load with an error", SolarLedger.SYNTAX_ERROR, Check.load(x, "garden"));
         x.describe(0);
         x.forecastBalance(0, 3);
-        Check.due("nothing was changed", before, look(x));
+        Check.due("nothing was changed", before, Look.books(x));
         Check.due("one change", 0, x.undo());
         Check.due("it was the join", 0, x.subscriberCount());
     }
 
     private static void undoAcrossLoad() {
         SolarLedger x = ledger();
-        String before = look(x);
+        String before = Look.books(x);
         Check.load(x, "garden 1 1 1 1;period 1;");
         x.join(1, 1, 5);
         x.passDays(30);
@@ -166,7 +128,7 @@ public final class UndoTest {
         x.undo();
         x.undo();
         Check.due("the load", 1, x.undo());
-        Check.due("the old garden", before, look(x));
+        Check.due("the old garden", before, Look.books(x));
         Check.due("the change before it", 0, x.undo());
         Check.due("free days", 30, x.passDays(30));
     }
