@@ -81,10 +81,11 @@ final class CreditBoundaries extends Boundaries {
                 due(one[2], x.account(0, 3));
                 due(0, x.balance(0));
             }
-            // The percentage is of the sum of the lots, not of each: 24 of 48.
-            SolarLedger x = small();
-            due(24, x.leave(0));
-            due(24, x.fund());
+            // The percentage is of the sum of the lots: 1 of 2 that are two lots of 1.
+            SolarLedger x = single(50, 1);
+            Check.endMonth(x, 1);
+            due(1, x.leave(0));
+            due(1, x.fund());
             // What is in the fund already stays there.
             SolarLedger y = Check.garden("garden 2 3 50 100;period 1;");
             y.join(1, 1, 0);
