@@ -129,6 +129,16 @@ final class CreditBoundaries extends Boundaries {
             due(100, x.projectedCredit(0));
             due(100, x.projectedCredit(2));
             due(100, x.projectedCredit(3));
+            // Nothing comes back from who has left: it is refused as not active, not as a circle.
+            Maker left = () -> {
+                SolarLedger z = Check.garden("garden 4 3 50 100;period 1;");
+                z.join(1, 1, 0);
+                z.join(1, 1, 0);
+                z.assign(0, 1, 10);
+                z.leave(0);
+                return z;
+            };
+            refused(STATE, left, z -> z.assign(1, 0, 10));
             // Those of others stay.
             SolarLedger y = Check.garden("garden 4 3 50 100;period 1;");
             for (int i = 0; i < 4; i++) {

@@ -253,6 +253,12 @@ final class TextBoundaries extends Boundaries {
             Check.append(x, ONE.getBytes());
             due(SYNTAX, x.load(8));
             due(8, x.errorPosition());
+            // So do numbers: the second digit stands behind the end.
+            SolarLedger y = new SolarLedger();
+            Check.append(y, "garden 55 1 1 1;period 7;".getBytes());
+            due(SYNTAX, y.load(8));
+            due(8, y.errorPosition());
+            error(SYNTAX, 300, " ".repeat(292) + "garden 5");
         });
         holds("section 5", "SYNTAX_ERROR: a byte or token", () -> {
             // A word that is cut off by the end is a token that is not allowed.

@@ -305,6 +305,24 @@ final class TrueUpBoundaries extends Boundaries {
             due(10, x.operatorAccount());
             due(0, x.fund());
         });
+        holds("section 4", "(part = fund * shares / (sum of all shares held))", () -> {
+            // The greatest fund that 59 months can fill, by the greatest number of shares.
+            SolarLedger x = Check.garden("garden 100000 1 0 100;period 200;period 200;period 200;"
+                    + "period 200;hours 1 2 1;hours 2 3 2;hours 3 4 3;");
+            x.join(99_999, 1, 0);
+            x.join(1, 1, 0);
+            for (int month = 0; month < 59; month++) {
+                for (int hour = 0; hour < 4; hour++) {
+                    x.generate(hour, MILLIARD);
+                }
+                x.passDays(30);
+                x.endMonth();
+            }
+            due(58 * 800_000_000_000L, x.fund());
+            due(58 * 800_000_000_000L, x.shareFund());
+            due(58 * 799_992_000_000L, x.lot(0, 59));
+            due(58 * 8_000_000L, x.lot(1, 59));
+        });
         holds("section 4", "the parts are credited like those of a positive true-up", () -> {
             SolarLedger x = with(1, 1, 1);
             x.bill(0, 50);
