@@ -18,6 +18,7 @@ public final class ForecastsTest {
         neededShares();
         expiring();
         monthsCovered();
+        monthsCoveredBehindTheLast();
         nothingIsChanged();
         Check.finish();
     }
@@ -244,6 +245,18 @@ public final class ForecastsTest {
         Check.fails("0", Check.ARGUMENT, () -> x.monthsCovered(0, 0));
         Check.fails("negative", Check.ARGUMENT, () -> x.monthsCovered(0, Long.MIN_VALUE));
         Check.fails("nobody", Check.INDEX, () -> x.monthsCovered(1, 0));
+    }
+
+    private static void monthsCoveredBehindTheLast() {
+        SolarLedger x = Check.garden("garden 1 24 50 100;period 1;");
+        x.join(1, 1, 0);
+        for (int month = 0; month < 58; month++) {
+            Check.endMonth(x, 0);
+        }
+        Check.endMonth(x, 100);
+        Check.due("the last month", 59, x.month());
+        Check.due("four ends", 4, x.monthsCovered(0, 25));
+        Check.due("until it expires", 24, x.monthsCovered(0, 1));
     }
 
     private static void nothingIsChanged() {

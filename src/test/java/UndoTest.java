@@ -10,6 +10,7 @@ public final class UndoTest {
         undoAcrossLoad();
         undoBringsBackWhoWaits();
         changesAfterUndo();
+        pushedOutStaysOut();
         theTextBufferStays();
         Check.finish();
     }
@@ -174,6 +175,21 @@ public final class UndoTest {
         Check.due("none left", 0, x.undo());
         Check.due("nobody", 0, x.subscriberCount());
         Check.fails("no more", Check.STATE, () -> x.undo());
+    }
+
+    private static void pushedOutStaysOut() {
+        SolarLedger x = new SolarLedger();
+        for (int i = 1; i <= 7; i++) {
+            x.generate(0, 1);
+        }
+        Check.due("first undo", 5, x.undo());
+        Check.due("second undo", 4, x.undo());
+        x.generate(0, 10);
+        for (int left = 4; left >= 0; left--) {
+            Check.due("undo", left, x.undo());
+            Check.due("generation", 1 + left, x.generation(0, 0));
+        }
+        Check.fails("the first change", Check.STATE, () -> x.undo());
     }
 
     private static void theTextBufferStays() {
